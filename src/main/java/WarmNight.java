@@ -660,8 +660,8 @@ public final class WarmNight {
             return Math.min(n, fuel);
         }
 
-        int seat(Carriage c, int man, int quarter) {
-            return c.nearestCell(c.home[man]);
+        int seat(Carriage c, int own, int quarter) {
+            return own;
         }
 
         boolean isHung(Carriage c, int cell) {
@@ -685,10 +685,10 @@ public final class WarmNight {
     }
 
     private static final class Half extends Even {
-        int seat(Carriage c, int man, int quarter) {
+        int seat(Carriage c, int own, int quarter) {
             int stove = c.nearestCell(c.numbers[STOVE]);
             int edge = c.numbers[EDGE];
-            return Math.max(stove - edge, Math.min(stove + edge, super.seat(c, man, quarter)));
+            return Math.max(stove - edge, Math.min(stove + edge, own));
         }
 
         boolean isHung(Carriage c, int cell) {
@@ -701,8 +701,8 @@ public final class WarmNight {
     }
 
     private static final class Turn extends Even {
-        int seat(Carriage c, int man, int quarter) {
-            return Math.floorMod(super.seat(c, man, quarter) + quarter, Math.max(1, c.cells()));
+        int seat(Carriage c, int own, int quarter) {
+            return Math.floorMod(own + quarter, Math.max(1, c.cells()));
         }
     }
 
@@ -774,7 +774,7 @@ public final class WarmNight {
                 loss[q][c] = carriage.lossAt(q, c);
             }
             for (int m = 0; m < carriage.people; m++) {
-                int cell = rule.seat(carriage, m, q);
+                int cell = rule.seat(carriage, carriage.nearestCell(carriage.home[m]), q);
                 // A seat is used as an index from here on.
                 seat[q][m] = carriage.hasCell(cell) ? cell : 0;
                 given[q][seat[q][m]] += carriage.gives[m];
@@ -1087,7 +1087,7 @@ public final class WarmNight {
                 return FULL;
             }
             for (int i = n - 1; i >= 0; i--) {
-                bytes[length++] = (int) (v >>> 8 * i & 255);
+                bytes[length++] = (int) ((v >>> (8 * i)) & 255);
             }
             return length;
         }

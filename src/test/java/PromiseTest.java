@@ -587,6 +587,47 @@ public final class PromiseTest {
         // 1 1 1 has 100 150 175; 0 is the best worst, as only 2 at 0 have more there and then 100 later.
         due(22, "a change is seen", z.best(NONE), 0);
         due(22, "its row", z.best(0) * 100 + z.best(1) * 10 + z.best(2), 111);
+        promise22Changes();
+    }
+
+    /** BEST is looked for anew behind each change that there can be. */
+    private static void promise22Changes() {
+        for (int change = 0; change < 12; change++) {
+            WarmNight x = forChanges();
+            WarmNight y = forChanges();
+            int before = x.best(NONE);
+            change(x, change);
+            change(y, change);
+            due(22, "best as of an object that did not ask before, change " + change, x.best(NONE), y.best(NONE));
+            due(22, "best is another one, change " + change, x.best(NONE) == before ? 1 : 0, 0);
+        }
+    }
+
+    private static WarmNight forChanges() {
+        WarmNight x = still(2, 1);
+        x.image(0);
+        x.cell(0, 0, 10, 8);
+        x.pass(0, 40);
+        x.man(0, 0, 100, 0, 50);
+        x.put(2, 0);
+        return x;
+    }
+
+    private static void change(WarmNight x, int change) {
+        switch (change) {
+            case 0: x.put(4, 200); break;
+            case 1: x.cell(0, 100, 0, 8); break;
+            case 2: x.pass(0, 20); break;
+            case 3: x.hang(0, true); break;
+            case 4: x.cold(0, 2, -200); break;
+            case 5: x.man(1, 0, 300, 0, 0); break;
+            case 6: x.coat(0, true); break;
+            case 7: x.broken(0, 0, 50); break;
+            case 8: x.open(0, true); break;
+            case 9: x.carriage(); break;
+            case 10: x.from(0); break;
+            default: x.put(1, 1); break;
+        }
     }
 
     private static void promise23() {
@@ -727,6 +768,12 @@ public final class PromiseTest {
         due(28, "half", x.keep(3), 2);
         due(28, "turn", x.keep(4), 2);
         due(28, "the fraction is as it was", x.part(0), 0);
+        WarmNight y = still(1, 60);
+        y.man(0, 0, 300, 0, 0);
+        y.put(4, 34);
+        due(28, "all nine are needed", y.keep(0), 9);
+        y.put(4, 33);
+        due(28, "not even nine are enough", y.keep(0), 0);
         allBad(28, "keep", x.keep(5), x.keep(-1), x.keep(6), x.keep(HUGE));
         x.help(0, 0);
         due(28, "all weights 0", x.keep(0), NO);
