@@ -548,6 +548,8 @@ public final class PromiseTest {
 
     private static void promise22() {
         WarmNight x = still(3, 8);
+        due(22, "best(NONE) as the first call", new WarmNight().best(NONE), 1000);
+        due(22, "take() as the first call", new WarmNight().take(), 1);
         due(22, "nobody needs a fire", x.best(0) + x.best(1) + x.best(2), 0);
         due(22, "worst of nobody", x.best(NONE), 1000);
         x.man(0, 0, 100, 1, 0);
