@@ -579,7 +579,7 @@ public final class WarmNight {
 
         /** The last CELL stands for one that there is not. */
         int nearestCell(int told) {
-            return Math.min(told, cells() - 1);
+            return told < numbers[CELLS] ? told : numbers[CELLS] - 1;
         }
 
         boolean hasCell(int cell) {
